@@ -773,7 +773,7 @@ public final class BoreSpans {
             int bores = 0;
             int lastBegin = NONE;
             int firstEnd = SIZES + PLAYS;
-            int leastBore = SIZES;
+            int leastBore = SIZES + PLAYS;
             int greatestBore = NONE;
             for (int j = i - 1; j >= 0; j--) {
                 if (isBore[j]) {
@@ -785,7 +785,7 @@ public final class BoreSpans {
                     lastBegin = Math.max(lastBegin, place[j]);
                     firstEnd = Math.min(firstEnd, close[j]);
                 }
-                if (bores > 0 && lastBegin > leastBore || greatestBore > firstEnd) {
+                if (lastBegin > leastBore || greatestBore > firstEnd) {
                     return;
                 }
                 addBox(j, i, k, Math.min(shafts, bores));
@@ -853,7 +853,7 @@ public final class BoreSpans {
                     int wasLast = last[r];
                     last[r] = from - 1;
                     if (to < wasLast) {
-                        addRow(Math.max(first[r], to + 1), wasLast);
+                        addRow(to + 1, wasLast);
                     }
                 }
             }

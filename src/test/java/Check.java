@@ -24,11 +24,11 @@ final class Check {
         }
     }
 
-    /** Several answers at once: of f(0), f(1) and on. */
-    void row(String call, int[] got, int... want) {
-        due(call + " (how many)", got.length, want.length);
+    /** Two looks at objects: whether they tell the same. */
+    void same(String when, int[] got, int[] want) {
+        due(when + ": how much there is to tell", got.length, want.length);
         for (int i = 0; i < Math.min(got.length, want.length); i++) {
-            due(call + " at " + i, got[i], want[i]);
+            due(when + ": place " + i + " of the look", got[i], want[i]);
         }
     }
 
@@ -66,10 +66,6 @@ final class Check {
         x.seed(seed);
         all.add(seed);
         return all.stream().mapToInt(Integer::intValue).toArray();
-    }
-
-    void same(String call, int[] got, int[] want) {
-        row(call, got, want);
     }
 
     void end() {

@@ -154,6 +154,13 @@ public final class PartsTest {
                 check.due("boreAt(" + b + ", " + what + ")", x.boreAt(b, what), due[b][what]);
             }
         }
+        int[] fitted = {0, 2, 2, 0};
+        int[] sizes = {101, 102, 105, 106};
+        for (int i = 0; i < sizes.length; i++) {
+            int b = x.bore(sizes[i]);
+            check.due("how many a bore of " + sizes[i] + " fits", x.boreAt(b, 2), fitted[i]);
+        }
+        x.undo(4);
         check.due("boreAt(0, 4)", x.boreAt(0, 4), Check.OUTSIDE);
         check.due("boreAt(4, 0)", x.boreAt(4, 0), Check.UNKNOWN);
         check.due("boreAt(4, 4)", x.boreAt(4, 4), Check.UNKNOWN);

@@ -124,8 +124,9 @@ public final class SeenTest {
         x.grade(0, 0, 9);
         x.grade(1, 0, 3);
         check.due("no shaft", x.told(14), Check.NONE);
-        x.see(0, 100, true);
         x.shaft(0, 100);
+        check.due("shaft 0 parts all", x.told(14), 0);
+        x.see(0, 100, true);
         check.due("it parts nothing", x.told(14), Check.NONE);
         x.shaft(0, 110);
         check.due("it parts nothing either", x.told(14), Check.NONE);
