@@ -422,6 +422,9 @@ public final class BoreSpans {
         }
 
         void dropShaft(int s) {
+            if (!isIn(s, shaftCount)) {
+                return;
+            }
             shaftCount--;
             for (int i = s; i < shaftCount; i++) {
                 shafts[i] = shafts[i + 1];
@@ -429,6 +432,9 @@ public final class BoreSpans {
         }
 
         void dropBore(int b) {
+            if (!isIn(b, boreCount)) {
+                return;
+            }
             boreCount--;
             for (int i = b; i < boreCount; i++) {
                 bores[i] = bores[i + 1];
@@ -539,6 +545,9 @@ public final class BoreSpans {
         }
 
         private void addShaft(int size, int from, int to) {
+            if (shafts >= MOST_PARTS) {
+                return;
+            }
             shaftSize[shafts] = size;
             begin[shafts] = from;
             end[shafts] = to;
@@ -556,6 +565,9 @@ public final class BoreSpans {
         }
 
         private void addBore(int size) {
+            if (bores > MOST_PARTS) {
+                return;
+            }
             boreSize[bores] = size;
             int at = bores;
             while (at > 0 && boreSize[rising[at - 1]] > size) {
@@ -629,22 +641,16 @@ public final class BoreSpans {
             return boreSize[boreOf[pairedShaft]] - shaftSize[pairedShaft];
         }
 
-        /** Halves the bounds: what goes with some PLAY goes with more too. */
+        /** By steps that are halved, as what goes with some PLAY goes with more too. */
         int ease() {
-            if (pair(PLAYS - 1) < shafts) {
-                return NONE;
-            }
-            int low = 0;
-            int high = PLAYS - 1;
-            while (low < high) {
-                int middle = (low + high) / 2;
-                if (pair(middle) == shafts) {
-                    high = middle;
-                } else {
-                    low = middle + 1;
+            int tooLittle = -1;
+            for (int step = 512; step > 0; step /= 2) {
+                int tried = tooLittle + step;
+                if (tried < PLAYS && pair(tried) < shafts) {
+                    tooLittle = tried;
                 }
             }
-            return low;
+            return tooLittle + 1 < PLAYS ? tooLittle + 1 : NONE;
         }
 
         /** Only beginnings are tried: a BORE that helps goes to a SHAFT, and one at the beginning of its SPAN helps too. */
@@ -744,6 +750,9 @@ public final class BoreSpans {
         }
 
         private void add(int from, int to, boolean bore) {
+            if (parts >= 2 * MOST_PARTS) {
+                return;
+            }
             int at = parts;
             while (at > 0 && place[at - 1] > from) {
                 place[at] = place[at - 1];
