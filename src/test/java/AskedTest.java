@@ -17,14 +17,14 @@ public final class AskedTest {
         check.end();
     }
 
-    private static void crowdIs(String when, BoreSpans x, int... due) {
+    private static void crowdIs(String when, Counted x, int... due) {
         for (int what = 0; what < 4; what++) {
             check.due(when + ": crowd(" + what + ")", x.crowd(what), due.length == 0 ? Check.NONE : due[what]);
         }
     }
 
     private static void crowd() {
-        BoreSpans x = new BoreSpans();
+        Counted x = new Counted();
         x.grade(0, 0, 10);
         x.grade(1, 5, 30);
         crowdIs("none", x);
@@ -56,7 +56,7 @@ public final class AskedTest {
     }
 
     private static void crowdLeastFirst() {
-        BoreSpans x = new BoreSpans();
+        Counted x = new Counted();
         x.shaft(0, 300);
         x.shaft(0, 200);
         x.shaft(0, 400);
@@ -69,28 +69,28 @@ public final class AskedTest {
         x.shaft(1, 280);
         x.bore(310);
         crowdIs("the least x, then the least y", x, 280, 300, 1, 0);
-        BoreSpans wide = new BoreSpans();
+        Counted wide = new Counted();
         wide.grade(0, 999, 999);
         wide.shaft(0, 9999);
         crowdIs("beyond all sizes", wide, 10998, 10998, 1, 0);
     }
 
     private static void crowdOutside() {
-        BoreSpans x = new BoreSpans();
+        Counted x = new Counted();
         check.due("crowd(4)", x.crowd(4), Check.OUTSIDE);
         for (int wild : Check.WILD) {
             check.due("crowd(" + wild + ")", x.crowd(wild), Check.OUTSIDE);
         }
     }
 
-    private static void boxesAre(String when, BoreSpans x, int... due) {
+    private static void boxesAre(String when, Counted x, int... due) {
         for (int k = 0; k < 10; k++) {
             check.due(when + ": boxes(" + k + ")", x.boxes(k), due[Math.min(k, due.length - 1)]);
         }
     }
 
     private static void boxes() {
-        BoreSpans x = new BoreSpans();
+        Counted x = new Counted();
         x.grade(0, 0, 10);
         x.shaft(0, 100);
         boxesAre("a shaft alone", x, 0);
@@ -111,14 +111,14 @@ public final class AskedTest {
 
     /** At one place SHAFTS are ahead of BORES: they go into the BOX with those behind. */
     private static void boxOrder() {
-        BoreSpans x = new BoreSpans();
+        Counted x = new Counted();
         x.grade(0, 5, 5);
         x.bore(105);
         x.bore(105);
         x.shaft(0, 100);
         x.shaft(0, 100);
         boxesAre("all at one place", x, 0, 2);
-        BoreSpans y = new BoreSpans();
+        Counted y = new Counted();
         y.grade(0, 0, 10);
         y.grade(1, 0, 2);
         y.shaft(0, 100);
@@ -132,7 +132,7 @@ public final class AskedTest {
     }
 
     private static void boxesInARow() {
-        BoreSpans x = new BoreSpans();
+        Counted x = new Counted();
         for (int i = 0; i < 12; i++) {
             x.shaft(0, 100 * i);
             x.bore(100 * i);
@@ -146,7 +146,7 @@ public final class AskedTest {
     }
 
     private static void boxesOutside() {
-        BoreSpans x = new BoreSpans();
+        Counted x = new Counted();
         check.due("boxes(10)", x.boxes(10), Check.OUTSIDE);
         for (int wild : Check.WILD) {
             check.due("boxes(" + wild + ")", x.boxes(wild), Check.OUTSIDE);
@@ -154,7 +154,7 @@ public final class AskedTest {
     }
 
     private static void withBore() {
-        BoreSpans x = new BoreSpans();
+        Counted x = new Counted();
         check.due("no parts", x.withBore(0), 0);
         x.grade(0, 0, 10);
         x.shaft(0, 100);
@@ -179,7 +179,7 @@ public final class AskedTest {
     }
 
     private static void ease() {
-        BoreSpans x = new BoreSpans();
+        Counted x = new Counted();
         x.grade(0, 5, 10);
         x.bore(100);
         check.due("no shaft", x.told(8), 0);
@@ -204,7 +204,7 @@ public final class AskedTest {
     }
 
     private static void more() {
-        BoreSpans x = new BoreSpans();
+        Counted x = new Counted();
         check.due("no shaft", x.told(9), Check.NONE);
         x.grade(0, 5, 10);
         x.shaft(0, 200);
@@ -225,11 +225,25 @@ public final class AskedTest {
     }
 
     private static void nothingChanges() {
-        BoreSpans x = new BoreSpans();
-        x.seed(3);
-        x.grade(1, 2, 30);
-        x.batch(20);
-        int[] was = Check.look(x);
-        check.same("asked again", Check.look(x), was);
+        Looks.Run some = x -> {
+            x.seed(3);
+            x.grade(1, 2, 30);
+            x.batch(20);
+        };
+        check.alike("asked", Looks.both(some, AskedTest::askAll), some);
+    }
+
+    private static void askAll(Counted x) {
+        for (int what = 0; what < 16; what++) {
+            x.told(what);
+            x.crowd(what);
+            x.boxes(what);
+            x.withBore(1000 + what);
+            x.shaftAt(what, 2);
+            x.boreAt(what, 1);
+            x.gradeAt(what, 2);
+            x.sort(what, 3);
+            x.find(4, 1000 + what);
+        }
     }
 }

@@ -1,3 +1,5 @@
+import java.util.List;
+
 /** Counts the answers that are not as due and tells them; a test ends with exit code 1 if there was one. */
 final class Check {
     static final int NONE = -1;
@@ -5,10 +7,17 @@ final class Check {
     static final int OUTSIDE = -1000000002;
     static final int NOT = -1000000003;
     static final int FULL = -1000000004;
-    /** Numbers that are out of every bound. */
-    static final int[] WILD = {-1, -2, Integer.MIN_VALUE, Integer.MAX_VALUE, 10000, 1000000};
+    /** Numbers that are out of every bound but the seed's. */
+    static final int[] WILD = {-1, -2, Integer.MIN_VALUE, Integer.MIN_VALUE + 1, -10000, 10000, 1000000, 65536, -65536,
+        Integer.MAX_VALUE - 1, Integer.MAX_VALUE};
+
+    /** A call and what it answered. */
+    interface Call {
+        int on(Counted x);
+    }
 
     private final String test;
+    private String sentence = "";
     private int answers = 0;
     private int wrong = 0;
 
@@ -16,56 +25,41 @@ final class Check {
         this.test = test;
     }
 
+    /** The words of the document that what comes next is about; DocumentTest looks for them there. */
+    void sentence(String words) {
+        sentence = " [" + words + "]";
+    }
+
     void due(String call, long got, long want) {
         answers++;
         if (got != want) {
             wrong++;
-            System.out.println(test + ": " + call + " answered " + got + ", due is " + want);
+            System.out.println(test + sentence + ": " + call + " answered " + got + ", due is " + want);
         }
     }
 
-    /** Two looks at objects: whether they tell the same. */
-    void same(String when, int[] got, int[] want) {
-        due(when + ": how much there is to tell", got.length, want.length);
-        for (int i = 0; i < Math.min(got.length, want.length); i++) {
-            due(when + ": place " + i + " of the look", got[i], want[i]);
+    void holds(String what, boolean so) {
+        due(what, so ? 1 : 0, 1);
+    }
+
+    /** Whether nothing that can be asked tells the one run from the other. */
+    void alike(String when, Looks.Run one, Looks.Run other) {
+        for (int i = 0; i < Looks.ALL.size(); i++) {
+            List<Integer> got = Looks.of(one, Looks.ALL.get(i));
+            List<Integer> want = Looks.of(other, Looks.ALL.get(i));
+            due(when + ": how much look " + i + " tells", got.size(), want.size());
+            for (int j = 0; j < Math.min(got.size(), want.size()); j++) {
+                due(when + ": place " + j + " of look " + i, got.get(j), want.get(j));
+            }
         }
     }
 
-    /** All that can be asked of an object, so that two looks tell whether anything changed. */
-    static int[] look(BoreSpans x) {
-        java.util.ArrayList<Integer> all = new java.util.ArrayList<>();
-        for (int what = 0; what < 16; what++) {
-            all.add(x.told(what));
-        }
-        for (int s = 0; s < 24; s++) {
-            for (int what = 0; what < 6; what++) {
-                all.add(x.shaftAt(s, what));
-            }
-            for (int what = 0; what < 4; what++) {
-                all.add(x.boreAt(s, what));
-            }
-        }
-        for (int g = 0; g < 4; g++) {
-            for (int what = 0; what < 3; what++) {
-                all.add(x.gradeAt(g, what));
-            }
-        }
-        for (int k = 0; k < 48; k++) {
-            for (int what = 0; what < 4; what++) {
-                all.add(x.sort(k, what));
-            }
-        }
-        for (int k = 0; k < 10; k++) {
-            all.add(x.boxes(k));
-        }
-        for (int what = 0; what < 4; what++) {
-            all.add(x.crowd(what));
-        }
-        int seed = x.seed(0);
-        x.seed(seed);
-        all.add(seed);
-        return all.stream().mapToInt(Integer::intValue).toArray();
+    /** Whether a call is refused so after a run, and all is then as if it had not been called. */
+    void refused(String call, Looks.Run run, Call refusedCall, int want) {
+        Counted x = new Counted();
+        run.on(x);
+        due(call, refusedCall.on(x), want);
+        alike("after " + call, Looks.both(run, y -> refusedCall.on(y)), run);
     }
 
     void end() {

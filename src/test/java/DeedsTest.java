@@ -24,7 +24,7 @@ public final class DeedsTest {
     }
 
     private static void shaft() {
-        BoreSpans x = new BoreSpans();
+        Counted x = new Counted();
         check.due("shaft(0, 0)", x.shaft(0, 0), 0);
         check.due("shaft(3, 9999)", x.shaft(3, 9999), 1);
         check.due("shaft(3, 9999)", x.shaft(3, 9999), 2);
@@ -41,7 +41,7 @@ public final class DeedsTest {
     }
 
     private static void shaftFull() {
-        BoreSpans x = new BoreSpans();
+        Counted x = new Counted();
         for (int s = 0; s < 24; s++) {
             check.due("shaft(1, 77)", x.shaft(1, 77), s);
         }
@@ -54,7 +54,7 @@ public final class DeedsTest {
     }
 
     private static void bore() {
-        BoreSpans x = new BoreSpans();
+        Counted x = new Counted();
         check.due("bore(0)", x.bore(0), 0);
         check.due("bore(9999)", x.bore(9999), 1);
         check.due("bore(9999)", x.bore(9999), 2);
@@ -67,7 +67,7 @@ public final class DeedsTest {
     }
 
     private static void boreFull() {
-        BoreSpans x = new BoreSpans();
+        Counted x = new Counted();
         for (int b = 0; b < 24; b++) {
             check.due("bore(77)", x.bore(77), b);
         }
@@ -79,7 +79,7 @@ public final class DeedsTest {
     }
 
     private static void sortsFull() {
-        BoreSpans x = new BoreSpans();
+        Counted x = new Counted();
         for (int i = 0; i < 24; i++) {
             x.shaft(i % 4, i);
         }
@@ -101,7 +101,7 @@ public final class DeedsTest {
     }
 
     private static void takeShaft() {
-        BoreSpans x = new BoreSpans();
+        Counted x = new Counted();
         x.shaft(0, 10);
         x.shaft(1, 20);
         x.shaft(2, 30);
@@ -121,7 +121,7 @@ public final class DeedsTest {
     }
 
     private static void takeBore() {
-        BoreSpans x = new BoreSpans();
+        Counted x = new Counted();
         x.bore(10);
         x.bore(20);
         x.bore(30);
@@ -139,7 +139,7 @@ public final class DeedsTest {
     }
 
     private static void grade() {
-        BoreSpans x = new BoreSpans();
+        Counted x = new Counted();
         x.shaft(3, 500);
         x.bore(510);
         check.due("grade(3, 10, 10)", x.grade(3, 10, 10), 1);
@@ -164,7 +164,7 @@ public final class DeedsTest {
     }
 
     private static void putAway() {
-        BoreSpans x = new BoreSpans();
+        Counted x = new Counted();
         check.due("putAway() of nothing", x.putAway(), Check.NOT);
         x.shaft(0, 10);
         x.shaft(0, 20);
@@ -198,7 +198,7 @@ public final class DeedsTest {
 
     private static void batch() {
         for (int seed : new int[] {0, 1, 42, 65536, 1999999999, Integer.MAX_VALUE}) {
-            BoreSpans x = new BoreSpans();
+            Counted x = new Counted();
             x.seed(seed);
             drawnSeed = seed;
             check.due("batch(20)", x.batch(20), 20);
@@ -219,7 +219,7 @@ public final class DeedsTest {
             check.due("one deed", x.told(15), 1);
             check.due("the seed then", x.seed(0), drawnSeed);
         }
-        BoreSpans x = new BoreSpans();
+        Counted x = new Counted();
         check.due("batch(1)", x.batch(1), 1);
         check.due("batch(0)", x.batch(0), Check.OUTSIDE);
         check.due("batch(21)", x.batch(21), Check.OUTSIDE);
@@ -230,7 +230,7 @@ public final class DeedsTest {
     }
 
     private static void batchWithoutRoom() {
-        BoreSpans x = new BoreSpans();
+        Counted x = new Counted();
         int came = 0;
         for (int i = 0; i < 20; i++) {
             came += x.batch(20);
@@ -256,7 +256,7 @@ public final class DeedsTest {
     }
 
     private static void clear() {
-        BoreSpans x = new BoreSpans();
+        Counted x = new Counted();
         check.due("clear() of nothing", x.clear(), 0);
         check.due("is a deed", x.told(15), 1);
         x.grade(2, 3, 4);
@@ -278,8 +278,7 @@ public final class DeedsTest {
         check.due("ever since", x.sort(0, 3), 1);
     }
 
-    private static BoreSpans ready() {
-        BoreSpans x = new BoreSpans();
+    private static void ready(Counted x) {
         x.grade(0, 0, 5);
         x.shaft(0, 100);
         x.shaft(1, 200);
@@ -287,40 +286,38 @@ public final class DeedsTest {
         x.bore(100);
         x.bore(400);
         x.keep(0);
-        return x;
     }
 
-    private static void undone(String deed, BoreSpans x, int[] was) {
+    private static void undone(String deed, Looks.Run run) {
+        Counted x = new Counted();
+        ready(x);
+        run.on(x);
         check.due(deed + " is one deed", x.told(15), 1);
         check.due("undo of " + deed, x.undo(1), 5);
-        check.same("after undo of " + deed, Check.look(x), was);
+        Looks.Run doneAndUndone = y -> {
+            ready(y);
+            run.on(y);
+            y.undo(1);
+            // By itself undoing leaves THE SEED.
+            y.seed(0);
+        };
+        check.alike("after undo of " + deed, doneAndUndone, DeedsTest::ready);
     }
 
     private static void undoEachDeed() {
-        int[] was = Check.look(ready());
-        BoreSpans x = ready();
-        x.shaft(3, 1);
-        undone("shaft", x, was);
-        x.bore(1);
-        undone("bore", x, was);
-        x.takeShaft(0);
-        undone("takeShaft", x, was);
-        x.takeBore(1);
-        undone("takeBore", x, was);
-        x.grade(0, 7, 9);
-        undone("grade", x, was);
-        x.putAway();
-        undone("putAway", x, was);
-        x.clear();
-        undone("clear", x, was);
-        int seed = x.seed(5);
-        x.batch(20);
-        x.seed(seed);
-        undone("batch", x, was);
+        undone("shaft", x -> x.shaft(3, 1));
+        undone("bore", x -> x.bore(1));
+        undone("takeShaft", x -> x.takeShaft(0));
+        undone("takeBore", x -> x.takeBore(1));
+        undone("grade", x -> x.grade(0, 7, 9));
+        undone("putAway", x -> x.putAway());
+        undone("batch", x -> x.batch(20));
+        undone("clear", x -> x.clear());
     }
 
     private static void undoRefused() {
-        BoreSpans x = ready();
+        Counted x = new Counted();
+        ready(x);
         check.due("undo(0)", x.undo(0), Check.OUTSIDE);
         check.due("undo(17)", x.undo(17), Check.OUTSIDE);
         check.due("undo(1)", x.undo(1), Check.NOT);
@@ -337,7 +334,7 @@ public final class DeedsTest {
     }
 
     private static void undoSixteen() {
-        BoreSpans x = new BoreSpans();
+        Counted x = new Counted();
         for (int i = 0; i < 20; i++) {
             x.bore(i);
             check.due("told(15)", x.told(15), Math.min(i + 1, 16));
@@ -357,7 +354,7 @@ public final class DeedsTest {
     }
 
     private static void undoLeavesTheSeed() {
-        BoreSpans x = new BoreSpans();
+        Counted x = new Counted();
         x.batch(2);
         x.see(0, 5, true);
         drawnSeed = 0;
@@ -371,10 +368,15 @@ public final class DeedsTest {
     }
 
     private static void refusedChangesNothing() {
-        BoreSpans x = ready();
-        x.bore(7);
-        x.see(1, 5, false);
-        int[] was = Check.look(x);
+        Looks.Run some = x -> {
+            ready(x);
+            x.bore(7);
+            x.see(1, 5, false);
+        };
+        check.alike("after refusals", Looks.both(some, DeedsTest::refusedCalls), some);
+    }
+
+    private static void refusedCalls(Counted x) {
         x.shaft(4, 1);
         x.shaft(0, -1);
         x.bore(10000);
@@ -391,6 +393,5 @@ public final class DeedsTest {
         x.keep(2);
         x.goBack(1);
         x.goBack(-1);
-        check.same("after refusals", Check.look(x), was);
     }
 }

@@ -15,7 +15,7 @@ public final class ImagesTest {
     }
 
     private static void seed() {
-        BoreSpans x = new BoreSpans();
+        Counted x = new Counted();
         check.due("seed(5)", x.seed(5), 0);
         check.due("seed(MAX)", x.seed(Integer.MAX_VALUE), 5);
         check.due("seed(-1)", x.seed(-1), Check.OUTSIDE);
@@ -28,7 +28,7 @@ public final class ImagesTest {
     }
 
     private static void refused() {
-        BoreSpans x = new BoreSpans();
+        Counted x = new Counted();
         for (int wild : Check.WILD) {
             check.due("keep(" + wild + ")", x.keep(wild), Check.UNKNOWN);
             check.due("goBack(" + wild + ")", x.goBack(wild), Check.UNKNOWN);
@@ -46,36 +46,47 @@ public final class ImagesTest {
         check.due("goBack(1)", x.goBack(1), 1);
     }
 
-    private static BoreSpans some() {
-        BoreSpans x = new BoreSpans();
+    private static Counted some() {
+        Counted x = new Counted();
+        putSome(x);
+        return x;
+    }
+
+    private static void putSome(Counted x) {
         x.grade(0, 1, 2);
         x.grade(3, 4, 50);
         x.shaft(3, 100);
         x.shaft(0, 101);
         x.bore(103);
         x.seed(77);
-        return x;
     }
 
     private static void keptAndGoneBackTo() {
-        BoreSpans x = some();
-        x.keep(0);
-        int[] was = Check.look(x);
-        x.batch(20);
-        x.grade(0, 9, 9);
-        x.takeShaft(0);
-        x.putAway();
-        x.clear();
-        x.seed(1);
-        check.due("goBack(0)", x.goBack(0), 1);
-        check.same("gone back", Check.look(x), was);
-        x.clear();
-        check.due("goBack(0) again", x.goBack(0), 1);
-        check.same("gone back again", Check.look(x), was);
+        Looks.Run kept = x -> {
+            putSome(x);
+            x.keep(0);
+        };
+        Looks.Run goneBack = x -> {
+            kept.on(x);
+            x.batch(20);
+            x.grade(0, 9, 9);
+            x.takeShaft(0);
+            x.putAway();
+            x.clear();
+            x.seed(1);
+            check.due("goBack(0)", x.goBack(0), 1);
+        };
+        Looks.Run goneBackTwice = x -> {
+            goneBack.on(x);
+            x.clear();
+            check.due("goBack(0) again", x.goBack(0), 1);
+        };
+        check.alike("gone back", goneBack, kept);
+        check.alike("gone back again", goneBackTwice, kept);
     }
 
     private static void twoImages() {
-        BoreSpans x = some();
+        Counted x = some();
         x.keep(0);
         x.bore(500);
         x.seed(78);
@@ -95,7 +106,7 @@ public final class ImagesTest {
     }
 
     private static void sortsAnew() {
-        BoreSpans x = new BoreSpans();
+        Counted x = new Counted();
         x.bore(9);
         x.shaft(1, 5);
         x.bore(8);
@@ -121,7 +132,7 @@ public final class ImagesTest {
     }
 
     private static void nothingUndone() {
-        BoreSpans x = some();
+        Counted x = some();
         check.due("told(15)", x.told(15), 5);
         check.due("keep(0)", x.keep(0), 1);
         check.due("told(15)", x.told(15), 0);
@@ -137,7 +148,7 @@ public final class ImagesTest {
     }
 
     private static void whatStays() {
-        BoreSpans x = some();
+        Counted x = some();
         x.see(0, 100, true);
         x.keep(0);
         x.see(0, 100, false);

@@ -3,7 +3,8 @@ import java.util.Random;
 /** All promises: long runs of calls drawn by fixed seeds, each answer compared with the Model's. */
 public final class ModelTest {
     private static final int RUNS = 240;
-    private static final int CALLS = 512;
+    /** One step makes four calls at most. */
+    private static final int CALLS_OF_A_STEP = 4;
     private static final Check check = new Check("ModelTest");
 
     private final Random random;
@@ -11,7 +12,7 @@ public final class ModelTest {
     private final int sizeRange;
     private final int playRange;
     private final int deedShare;
-    private final BoreSpans x = new BoreSpans();
+    private final Counted x = new Counted();
     private final Model model = new Model();
 
     private ModelTest(int run) {
@@ -28,8 +29,8 @@ public final class ModelTest {
     public static void main(String[] args) {
         for (int run = 0; run < RUNS; run++) {
             ModelTest test = new ModelTest(run);
-            for (int call = 0; call < CALLS; call++) {
-                test.step("run " + run + ", call " + call);
+            for (int step = 0; test.x.callsLeft() >= CALLS_OF_A_STEP; step++) {
+                test.step("run " + run + ", step " + step);
             }
         }
         check.end();

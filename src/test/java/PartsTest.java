@@ -19,7 +19,7 @@ public final class PartsTest {
     }
 
     private static void newObject() {
-        BoreSpans x = new BoreSpans();
+        Counted x = new Counted();
         int[] due = {0, 0, 0, 0, 0, 0, Check.NONE, Check.NONE, 0, Check.NONE, 0, 10000, 0, 9999, Check.NONE, 0};
         for (int what = 0; what < due.length; what++) {
             check.due("new: told(" + what + ")", x.told(what), due[what]);
@@ -39,8 +39,8 @@ public final class PartsTest {
     }
 
     /** SHAFTS with the SPANS 102..105, 200..200, 102..105, and four BORES. */
-    private static BoreSpans some() {
-        BoreSpans x = new BoreSpans();
+    private static Counted some() {
+        Counted x = new Counted();
         x.grade(1, 2, 5);
         x.shaft(1, 100);
         x.shaft(0, 200);
@@ -53,7 +53,7 @@ public final class PartsTest {
     }
 
     private static void toldCounts() {
-        BoreSpans x = some();
+        Counted x = some();
         int[] due = {3, 4, 5, 2, 1, 2};
         for (int what = 0; what < due.length; what++) {
             check.due("some: told(" + what + ")", x.told(what), due[what]);
@@ -62,13 +62,13 @@ public final class PartsTest {
     }
 
     private static void toldPlays() {
-        BoreSpans x = some();
+        Counted x = some();
         check.due("least play", x.told(6), 3);
         check.due("greatest play", x.told(7), 5);
         x.bore(200);
         check.due("least play 0", x.told(6), 0);
         check.due("greatest play still", x.told(7), 5);
-        BoreSpans wide = new BoreSpans();
+        Counted wide = new Counted();
         wide.grade(2, 0, 999);
         wide.shaft(2, 9000);
         wide.bore(9999);
@@ -77,7 +77,7 @@ public final class PartsTest {
     }
 
     private static void toldOutside() {
-        BoreSpans x = some();
+        Counted x = some();
         check.due("told(16)", x.told(16), Check.OUTSIDE);
         for (int wild : Check.WILD) {
             check.due("told(" + wild + ")", x.told(wild), Check.OUTSIDE);
@@ -85,7 +85,7 @@ public final class PartsTest {
     }
 
     private static void shaftAt() {
-        BoreSpans x = some();
+        Counted x = some();
         int[][] due = {{1, 100, 2, 102, 105, 0}, {0, 200, Check.NONE, 200, 200, 1}, {1, 100, 0, 102, 105, 0}};
         for (int s = 0; s < due.length; s++) {
             for (int what = 0; what < 6; what++) {
@@ -102,7 +102,7 @@ public final class PartsTest {
     }
 
     private static void pairedBySpanThatClosesFirst() {
-        BoreSpans x = new BoreSpans();
+        Counted x = new Counted();
         x.grade(0, 0, 50);
         x.grade(1, 0, 10);
         x.grade(2, 0, 20);
@@ -134,7 +134,7 @@ public final class PartsTest {
     }
 
     private static void pairedByBoreThatComesNext() {
-        BoreSpans x = new BoreSpans();
+        Counted x = new Counted();
         x.grade(0, 0, 20);
         x.shaft(0, 130);
         x.bore(150);
@@ -147,7 +147,7 @@ public final class PartsTest {
     }
 
     private static void boreAt() {
-        BoreSpans x = some();
+        Counted x = some();
         int[][] due = {{105, 2, 2, 2}, {201, Check.NONE, 0, 3}, {103, 0, 2, 4}, {105, Check.NONE, 2, 2}};
         for (int b = 0; b < due.length; b++) {
             for (int what = 0; what < 4; what++) {
@@ -171,7 +171,7 @@ public final class PartsTest {
     }
 
     private static void gradeAt() {
-        BoreSpans x = some();
+        Counted x = some();
         int[][] due = {{0, 0, 1}, {2, 5, 2}, {0, 0, 0}, {0, 0, 0}};
         for (int g = 0; g < due.length; g++) {
             for (int what = 0; what < 3; what++) {
@@ -187,14 +187,14 @@ public final class PartsTest {
         }
     }
 
-    private static void sortIs(BoreSpans x, int k, int... due) {
+    private static void sortIs(Counted x, int k, int... due) {
         for (int what = 0; what < 4; what++) {
             check.due("sort(" + k + ", " + what + ")", x.sort(k, what), due[what]);
         }
     }
 
     private static void sorts() {
-        BoreSpans x = some();
+        Counted x = some();
         sortIs(x, 0, 1, 100, 2, 2);
         sortIs(x, 1, 0, 200, 1, 1);
         sortIs(x, 2, 4, 105, 2, 2);
@@ -210,7 +210,7 @@ public final class PartsTest {
     }
 
     private static void sortsWithNoneLeft() {
-        BoreSpans x = some();
+        Counted x = some();
         x.takeShaft(0);
         x.takeShaft(1);
         sortIs(x, 0, 1, 100, 0, 2);
@@ -224,7 +224,7 @@ public final class PartsTest {
     }
 
     private static void find() {
-        BoreSpans x = some();
+        Counted x = some();
         check.due("find(1, 100)", x.find(1, 100), 0);
         check.due("find(0, 200)", x.find(0, 200), 1);
         check.due("find(4, 103)", x.find(4, 103), 4);

@@ -13,14 +13,14 @@ public final class SeenTest {
         check.end();
     }
 
-    private static void sizesAre(String when, BoreSpans x, int count, int least, int greatest) {
+    private static void sizesAre(String when, Counted x, int count, int least, int greatest) {
         check.due(when + ": how many", x.told(11), count);
         check.due(when + ": the least", x.told(12), least);
         check.due(when + ": the greatest", x.told(13), greatest);
     }
 
     private static void seeAndForget() {
-        BoreSpans x = new BoreSpans();
+        Counted x = new Counted();
         check.due("forget() of nothing", x.forget(), 0);
         for (int i = 1; i <= 6; i++) {
             check.due("see", x.see(3, 9999, false), i);
@@ -36,7 +36,7 @@ public final class SeenTest {
     }
 
     private static void seeRefused() {
-        BoreSpans x = new BoreSpans();
+        Counted x = new Counted();
         check.due("see(4, 0, true)", x.see(4, 0, true), Check.UNKNOWN);
         check.due("see(4, -1, true)", x.see(4, -1, true), Check.UNKNOWN);
         for (int wild : Check.WILD) {
@@ -52,7 +52,7 @@ public final class SeenTest {
     }
 
     private static void sizes() {
-        BoreSpans x = new BoreSpans();
+        Counted x = new Counted();
         x.grade(1, 10, 20);
         x.see(1, 100, true);
         sizesAre("went", x, 11, 110, 120);
@@ -72,7 +72,7 @@ public final class SeenTest {
     }
 
     private static void sizesAtTheEdges() {
-        BoreSpans x = new BoreSpans();
+        Counted x = new Counted();
         x.grade(0, 0, 999);
         x.grade(1, 1, 999);
         x.see(0, 9990, true);
@@ -91,7 +91,7 @@ public final class SeenTest {
     }
 
     private static void sixCutOut() {
-        BoreSpans x = new BoreSpans();
+        Counted x = new Counted();
         x.grade(0, 0, 9);
         int[] at = {500, 100, 900, 300, 700, 5000};
         for (int i = 0; i < 6; i++) {
@@ -110,7 +110,7 @@ public final class SeenTest {
     }
 
     private static void byGradesAsTheyAre() {
-        BoreSpans x = new BoreSpans();
+        Counted x = new Counted();
         x.see(2, 50, true);
         sizesAre("no play", x, 1, 50, 50);
         x.grade(2, 1, 3);
@@ -120,7 +120,7 @@ public final class SeenTest {
     }
 
     private static void tries() {
-        BoreSpans x = new BoreSpans();
+        Counted x = new Counted();
         x.grade(0, 0, 9);
         x.grade(1, 0, 3);
         check.due("no shaft", x.told(14), Check.NONE);
