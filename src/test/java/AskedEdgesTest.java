@@ -10,6 +10,8 @@ public final class AskedEdgesTest {
         crowdWithTheMostMore();
         crowdOfTheLeastX();
         crowdOfTheLeastY();
+        crowdWhollyWithin();
+        crowdOfTheLeastXAheadOfY();
         crowdOfAll();
         crowdBeyondAllSizes();
         easeOfNone();
@@ -24,6 +26,7 @@ public final class AskedEdgesTest {
         moreBesideABoreThatDoesNotGo();
         moreByOthersPairedAnew();
         moreWithAllBores();
+        moreWithAllSorts();
         boxOrderByPlace();
         boxOrderShaftAhead();
         boxOrderByNumber();
@@ -166,6 +169,35 @@ public final class AskedEdgesTest {
         crowdIs("two more to 110 alone", x, 100, 110, 3, 1);
         x.bore(110);
         crowdIs("one more to 100, 105, 110", x, 100, 100, 1, 0);
+    }
+
+    /** A SPAN from 100 to 110 around one from 105 to 106. */
+    private static Counted aSpanAroundAnother() {
+        Counted x = new Counted();
+        x.grade(0, 0, 10);
+        x.grade(1, 0, 1);
+        x.shaft(0, 100);
+        x.shaft(1, 105);
+        return x;
+    }
+
+    private static void crowdWhollyWithin() {
+        check.sentence("where more SHAFTS have their SPAN wholly within x to y than BORES have their SIZE there:");
+        Counted x = aSpanAroundAnother();
+        x.bore(101);
+        crowdIs("from 105 on the first is only in part", x, 100, 110, 2, 1);
+        x.takeBore(0);
+        x.bore(110);
+        crowdIs("as it is to 106", x, 100, 106, 1, 0);
+    }
+
+    private static void crowdOfTheLeastXAheadOfY() {
+        check.sentence("that with the most more (of like ones the least x, then the least y):");
+        Counted x = aSpanAroundAnother();
+        x.bore(100);
+        crowdIs("not from 105 to 106, though it ends first", x, 100, 110, 2, 1);
+        x.bore(109);
+        crowdIs("one each there: only within", x, 105, 106, 1, 0);
     }
 
     private static void crowdOfAll() {
@@ -404,6 +436,20 @@ public final class AskedEdgesTest {
         x.shaft(0, 9);
         moreIs("one that no bore fits", x, 9);
         check.due("bores are as many as were", x.told(1), 24);
+    }
+
+    private static void moreWithAllSorts() {
+        check.sentence("MORE: the least SIZE of one BORE more by which there would be one PAIR more; NONE.");
+        Counted x = new Counted();
+        x.shaft(0, 9);
+        for (int size = 100; size < 147; size++) {
+            x.bore(size);
+            x.takeBore(0);
+        }
+        check.due("sorts", x.told(2), 48);
+        check.due("no room for such a bore", x.bore(9), Check.FULL);
+        moreIs("though it would be a new sort", x, 9);
+        check.due("sorts are as many as were", x.told(2), 48);
     }
 
     private static void boxesAre(String when, Counted x, int... due) {

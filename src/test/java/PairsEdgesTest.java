@@ -23,6 +23,7 @@ public final class PairsEdgesTest {
         noWayHasMore();
         playOfAPair();
         leastAndGreatestPlay();
+        playOfPairsAlone();
         check.end();
     }
 
@@ -396,5 +397,21 @@ public final class PairsEdgesTest {
         x.bore(300);
         check.due("what is left has no play: the greatest", x.told(7), 4);
         check.due("the least", x.told(6), 0);
+    }
+
+    private static void playOfPairsAlone() {
+        check.sentence("6 the least PLAY of a PAIR, 7 the greatest (6, 7: NONE),");
+        Counted x = new Counted();
+        x.grade(0, 0, 6);
+        x.grade(1, 0, 10);
+        x.shaft(0, 100);
+        x.shaft(1, 105);
+        x.bore(106);
+        pairsAre("it fits both, and one span ends first", x, 0, Check.NONE);
+        check.due("less play would be with the other", x.told(6), 6);
+        x.bore(105);
+        pairsAre("the lesser bore to the span that ends first", x, 1, 0);
+        check.due("the least", x.told(6), 1);
+        check.due("more play would be the other way", x.told(7), 5);
     }
 }

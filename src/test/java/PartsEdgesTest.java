@@ -416,6 +416,12 @@ public final class PartsEdgesTest {
         x.bore(30);
         sortIs(x, 0, 4, 30, 1, 2);
         check.due("sorts", x.told(2), 3);
+        x.takeBore(1);
+        x.takeBore(0);
+        x.takeShaft(0);
+        check.due("no part at all: find(4, 30)", x.find(4, 30), 0);
+        check.due("no part at all: find(1, 20)", x.find(1, 20), 1);
+        check.due("no part at all: find(4, 10)", x.find(4, 10), 2);
     }
 
     private static void fortyEightSorts() {

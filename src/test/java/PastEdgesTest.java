@@ -9,6 +9,8 @@ public final class PastEdgesTest {
         drawsOfAHundred();
         putIfThereIsRoom();
         drawnWithoutRoom();
+        drawnWithoutRoomForASort();
+        batchOfNoneIsADeed();
         eachDeedIsOne();
         refusedIsNoDeed();
         othersAreNoDeed();
@@ -142,6 +144,46 @@ public final class PastEdgesTest {
         x.takeBore(0);
         check.due("room for one", x.batch(1), 1);
         check.due("its size", x.boreAt(23, 0), 1000);
+    }
+
+    /** SORTS of which none is left, so that there is room for parts, but for no other SORT. */
+    private static Counted withSorts(int sorts) {
+        Counted x = new Counted();
+        for (int size = 0; size < sorts; size++) {
+            x.bore(size);
+            x.takeBore(0);
+        }
+        return x;
+    }
+
+    private static void drawnWithoutRoomForASort() {
+        check.sentence("it is PUT, if there is room.");
+        Counted x = withSorts(48);
+        check.due("no room for a sort", x.batch(5), 0);
+        check.due("shafts", x.told(0), 0);
+        check.due("sorts", x.told(2), 48);
+        check.due("the seed is drawn all the same", x.seed(0), 551188310);
+        Counted y = withSorts(47);
+        check.due("room for one sort", y.batch(5), 1);
+        check.due("its grade, the first drawn", y.shaftAt(0, 0), 0);
+        check.due("its sort", y.shaftAt(0, 5), 47);
+        y.seed(0);
+        check.due("another of that sort has room", y.batch(1), 1);
+        check.due("how many there are", y.sort(47, 2), 2);
+    }
+
+    private static void batchOfNoneIsADeed() {
+        check.sentence("UNDONE: the latest deeds (shaft(), bore(), takeShaft(), takeBore(), grade(), putAway(), batch(), clear()) since the IMAGE (16 at most are kept):");
+        Counted x = new Counted();
+        Scenes.full(x);
+        x.keep(0);
+        x.takeShaft(0);
+        x.shaft(0, 0);
+        check.due("none comes", x.batch(20), 0);
+        check.due("it is a deed", x.told(15), 3);
+        check.due("undone: nothing was changed", x.undo(1), 48);
+        check.due("and the shaft", x.undo(1), 47);
+        check.due("one is left", x.told(15), 1);
     }
 
     private static void eachDeedIsOne() {
@@ -511,8 +553,15 @@ public final class PastEdgesTest {
         check.due("the grade", x.gradeAt(1, 1), 0);
         check.due("the seed", x.seed(0), 0);
         x.bore(6);
+        x.grade(1, 4, 7);
+        x.seed(9);
         x.keep(0);
+        x.clear();
+        x.grade(1, 0, 0);
+        x.seed(10);
         x.goBack(0);
         check.due("kept anew: bores", x.told(1), 2);
+        check.due("kept anew: the grade", x.gradeAt(1, 0), 4);
+        check.due("kept anew: the seed", x.seed(0), 9);
     }
 }

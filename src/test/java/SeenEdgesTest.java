@@ -22,6 +22,7 @@ public final class SeenEdgesTest {
         tryOfNone();
         tryTheGreaterPart();
         tryTheLeastOfLikeOnes();
+        tryThePairedToo();
         tryPartsNothing();
         tryAtTheEdges();
         check.end();
@@ -327,6 +328,21 @@ public final class SeenEdgesTest {
         tryIs("those alike: the least", x, 1);
         x.takeShaft(1);
         tryIs("then the next", x, 1);
+    }
+
+    private static void tryThePairedToo() {
+        check.sentence("TRY: the SHAFT that there is by which these are told apart best: the greater part is least; of like ones the least; NONE: none parts them.");
+        Counted x = new Counted();
+        x.grade(0, 0, 9);
+        x.see(0, 100, true);
+        x.shaft(0, 102);
+        x.shaft(0, 105);
+        tryIs("5 and 5", x, 1);
+        x.bore(114);
+        check.due("it is paired", x.shaftAt(1, 2), 0);
+        tryIs("it is there all the same", x, 1);
+        x.putAway();
+        tryIs("it is put away: 8 and 2", x, 0);
     }
 
     private static void tryPartsNothing() {
