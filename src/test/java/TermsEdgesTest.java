@@ -23,6 +23,7 @@ public final class TermsEdgesTest {
         outsideAheadOfFull();
         refusedChangesNothing();
         askedChangesNothing();
+        askedAheadOfAChange();
         check.end();
     }
 
@@ -303,6 +304,38 @@ public final class TermsEdgesTest {
                     x.find(what, 0);
                 };
                 check.alike("asked " + what, Looks.both(scene, ask), scene);
+            }
+        }
+    }
+
+    private static void askEach(Counted x) {
+        for (int what = 0; what < 16; what++) {
+            x.told(what);
+        }
+        for (int what = 0; what < 6; what++) {
+            x.shaftAt(0, what);
+            x.boreAt(0, what);
+            x.gradeAt(0, what);
+            x.sort(0, what);
+            x.crowd(what);
+        }
+        x.boxes(9);
+        x.withBore(5);
+        x.find(4, 5);
+    }
+
+    /** What was asked ahead of a change is not what is answered after it. */
+    private static void askedAheadOfAChange() {
+        check.sentence("ASKED, nothing changes by it.");
+        List<Looks.Run> changes = List.of(
+                x -> x.shaft(0, 103), x -> x.bore(300), x -> x.takeShaft(0), x -> x.takeBore(1), x -> x.grade(0, 0, 4),
+                x -> x.putAway(), x -> x.batch(20), x -> x.clear(), x -> x.undo(1), x -> x.undo(3),
+                x -> x.see(0, 99, true), x -> x.forget(), x -> x.seed(3), x -> x.keep(1), x -> x.goBack(0));
+        for (Looks.Run scene : SCENES) {
+            for (int i = 0; i < changes.size(); i++) {
+                Looks.Run change = changes.get(i);
+                Looks.Run asked = Looks.both(Looks.both(scene, TermsEdgesTest::askEach), change);
+                check.alike("asked ahead of change " + i, asked, Looks.both(scene, change));
             }
         }
     }
